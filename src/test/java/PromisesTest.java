@@ -431,6 +431,10 @@ public final class PromisesTest {
         // One try is left. Trying here: 0.9 * (2 * 0.999 + 0.001) is less than 2 * 0.9.
         fraction("15: two running", s.mean(0, 2, true), s.mean(0, 2, false), 9, 5);
         due("15: nothing changed", s.thrower(0, 3), 2);
+        UpWithSheaf t = Checks.fieldOf("U7T09");
+        Checks.acts(t, "MM");
+        // Over at 7 by 0.2, none is running then: 1 and 0.271 more; sparing: 0.1 of 2.
+        fraction("15: none running behind being over", t.mean(0, 2, true), t.mean(0, 2, false), 1271, 5000);
     }
 
     private static void wise() {
@@ -443,6 +447,9 @@ public final class PromisesTest {
         due("16: two running: spare", s.wise(0, 2), 0);
         UpWithSheaf z = Checks.fieldOf("U9T01");
         due("16: as good as anything", z.wise(0, 3), 1);
+        UpWithSheaf t = Checks.fieldOf("U7T09");
+        Checks.acts(t, "MM");
+        due("16: two running: try", t.wise(0, 2), 1);
         UpWithSheaf y = Checks.fieldOf("U8T01");
         due("16: here or never", y.wise(0, 2), 1);
     }

@@ -2,17 +2,36 @@
 final class Checks {
     private int wrong = 0;
     private int seen = 0;
+    private int sentences = 0;
+    private int seenBefore = -1;
+    private String about = "";
+
+    /** Names the promise and the sentence that the answers from now on are about. */
+    void about(String sentence) {
+        tellIfUntested();
+        about = sentence + ": ";
+        seenBefore = seen;
+        sentences++;
+    }
+
+    private void tellIfUntested() {
+        if (seen != seenBefore) return;
+        wrong++;
+        System.out.println(about + "no answer was looked at");
+    }
 
     void due(String what, long got, long want) {
         seen++;
         if (got != want) {
             wrong++;
-            System.out.println(what + " answered " + got + ", due is " + want);
+            System.out.println(about + what + " answered " + got + ", due is " + want);
         }
     }
 
     void finish(String name) {
-        System.out.println(name + ": " + seen + " answers, " + wrong + " not as due");
+        tellIfUntested();
+        String told = sentences == 0 ? "" : sentences + " sentences, ";
+        System.out.println(name + ": " + told + seen + " answers, " + wrong + " not as due");
         if (wrong != 0 || seen == 0) System.exit(1);
     }
 

@@ -2,7 +2,7 @@ import java.util.Random;
 
 /** Long runs of calls by a fixed seed, each answer compared with the Reference's. */
 public final class ModelTest {
-    private static final int RUNS = 400;
+    private static final int RUNS = 1500;
     // Behind a full call of one(), still fewer than the 512 that are promised.
     private static final int CALLS = 470;
     private static final Checks CHECKS = new Checks();
